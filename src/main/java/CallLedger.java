@@ -47,7 +47,7 @@ public final class CallLedger {
     private static final int GAS = 28;
     private static final int REVERT = 29;
 
-    // The three tables have a row of ten instructions a line. The prices of STORE and CALL hang on
+    // The tables have ten instructions a line. The prices of STORE and CALL hang on
     // what is on the stack, so that their 0 here is never asked for.
     private static final int[] PRICES = {
         1, 1, 1, 1, 1, 1, 1, 2, 3, 3,
@@ -59,12 +59,6 @@ public final class CallLedger {
         0, 0, 1, 1, 1, 2, 2, 2, 2, 2,
         2, 2, 1, 2, 2, 2, 0, 1, 1, 2,
         1, 0, 0, 0, 1, 1, 1, 3, 0, 1
-    };
-    // By how much the stack grows; CALL takes n more away, which can't make it too long.
-    private static final int[] GROWTH = {
-        0, 1, -1, 1, 0, -1, -1, -1, -1, -1,
-        -1, -1, 0, -1, -1, -1, 0, -1, 0, -2,
-        0, 1, 1, 1, 0, -1, -1, -1, 1, -1
     };
 
     private static final int SAME_STORE_PRICE = 5;
@@ -136,7 +130,7 @@ public final class CallLedger {
             throws IndexOutOfBoundsException, IllegalArgumentException {
         requireAccount(from);
         requireAccount(to);
-        if (amount < 0 || amount > balances.of(from)) {
+        if (!balances.canMove(from, to, amount)) {
             throw new IllegalArgumentException("the account can't pay the amount");
         }
         if (gas < 0 || gas > MOST_GAS) {
@@ -274,16 +268,17 @@ public final class CallLedger {
             return account >= 0 && account < count;
         }
 
+        /** -1 if there is no such account: BALANCE pushes that. */
         int of(int account) {
             return has(account) ? amounts[account] : -1;
         }
 
         boolean canMove(int from, int to, int amount) {
-            return has(to) && amount >= 0 && amount <= of(from);
+            return has(from) && has(to) && amount >= 0 && amount <= amounts[from];
         }
 
         void move(int from, int to, int amount) {
-            if (canMove(from, to, amount) && has(from)) {
+            if (canMove(from, to, amount)) {
                 amounts[from] -= amount;
                 amounts[to] += amount;
             }
@@ -354,13 +349,14 @@ public final class CallLedger {
         }
 
         private static boolean isGood(int word, int length) {
+            int instruction = instructionOf(word);
             int n = numberOf(word);
-            return switch (instructionOf(word)) {
+            return switch (instruction) {
                 case COPY -> n >= 0 && n <= MOST_PLACES_BELOW;
                 case SWAP -> n >= 1 && n <= MOST_PLACES_BELOW;
                 case JUMP, JUMP_IF -> n >= 0 && n <= length;
                 case CALL -> n >= 0 && n <= MOST_ARGUMENTS;
-                default -> instructionOf(word) < PRICES.length;
+                default -> instruction < PRICES.length;
             };
         }
 
@@ -533,7 +529,7 @@ public final class CallLedger {
             gas -= price;
             if (stack.size() < needOf(instruction, n)) {
                 trap(STACK_TOO_SHORT);
-            } else if (stack.size() + entry(GROWTH, instruction) > MOST_ON_STACK) {
+            } else if (stack.isFull() && pushesMoreThanItPops(instruction)) {
                 trap(STACK_TOO_LONG);
             } else {
                 place++;
@@ -559,6 +555,13 @@ public final class CallLedger {
             int fixed = entry(NEEDS, instruction);
             boolean needsMore = instruction == COPY || instruction == SWAP || instruction == CALL;
             return needsMore ? fixed + n : fixed;
+        }
+
+        private static boolean pushesMoreThanItPops(int instruction) {
+            return switch (instruction) {
+                case PUSH, COPY, CALLER, VALUE, SELF, GAS -> true;
+                default -> false;
+            };
         }
 
         private int priceOf(int instruction) {
