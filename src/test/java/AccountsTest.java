@@ -1,191 +1,235 @@
-/** Promises 1 to 5, 9 and 14: new objects, open, code, seal, argument, balance, supply. */
-public final class AccountsTest {
+/** Accounts and their balances: promises 1, 2, 9 and 14, and what "Terms" says of accounts. */
+public final class AccountsTest extends Bench {
+    private static final int[] NO_ACCOUNTS = {MIN, -1, 3, 4, 23, 24, MAX};
+
     public static void main(String[] args) {
-        newObject();
-        openGivesNumbers();
-        openRefuses();
-        codeCounts();
-        codeRefuses();
-        sealTestsWords();
-        sealEmptiesBadCode();
-        sealRefuses();
-        unsealedCodeIsEmpty();
-        argumentsCount();
-        balancesAndSupply();
-        Check.finish();
+        aNewObject();
+        objectsAreApart();
+        numbersFromZeroOn();
+        atMost24();
+        aNewAccountIsEmpty();
+        balanceBelowZero();
+        allBalancesTogether();
+        allBalancesTogetherBehindTransactions();
+        noSuchAccount();
+        balanceDownToZero();
+        balanceUpToAll();
+        supplyStays();
+        fiveHundredAndTwelveCalls();
+        finish();
     }
 
-    private static void newObject() {
+    private static void aNewObject() {
+        sentence("No accounts, an empty log");
         CallLedger x = new CallLedger();
-        Check.due("NONE", CallLedger.NONE, -1);
-        Check.due("new: used", x.used(), 0);
-        Check.due("new: result", x.result(), 0);
-        Check.due("new: keys", x.keys(), 0);
-        Check.due("new: logged", x.logged(), 0);
-        Check.due("new: supply", x.supply(), 0);
-        for (int account : new int[] {0, 1, 23, -1, Integer.MIN_VALUE, Integer.MAX_VALUE}) {
-            refusesAccount(x, account);
+        due("NONE", CallLedger.NONE, -1);
+        outOfBounds("balance(0)", () -> x.balance(0));
+        outOfBounds("storage(0, 0)", () -> x.storage(0, 0));
+        outOfBounds("code(0, 0)", () -> x.code(0, 0));
+        outOfBounds("seal(0)", () -> x.seal(0));
+        outOfBounds("transact(0, 0, 0, 0)", () -> x.transact(0, 0, 0, 0));
+        outOfBounds("log(0)", () -> x.log(0));
+        due("logged()", x.logged(), 0);
+        due("keys()", x.keys(), 0);
+        due("supply()", x.supply(), 0);
+        due("used()", x.used(), 0);
+        due("result()", x.result(), 0);
+        due("the first argument", x.argument(7), 1);
+        due("the first account", x.open(0), 0);
+    }
+
+    private static void objectsAreApart() {
+        sentence("No accounts, an empty log");
+        CallLedger full = new CallLedger();
+        account(full, 10, logging(push(1), push(2), STORE, push(9), RETURN));
+        full.argument(3);
+        due("one object's transaction", full.transact(0, 0, 0, 500), 0);
+        full.argument(4);
+        CallLedger x = new CallLedger();
+        due("another object", state(x, 1), "supply 0 keys 0 log used 0 result 0");
+        due("its first argument", x.argument(1), 1);
+        due("its first account", x.open(5), 0);
+        due("its first word", x.code(0, END), 1);
+        due("the first object stays", state(full, 1),
+                "10:2, supply 10 keys 1 log 3 2 1 used " + full.used() + " result 9");
+    }
+
+    private static void numbersFromZeroOn() {
+        sentence("ACCOUNTS have numbers from 0 on");
+        CallLedger x = new CallLedger();
+        for (int i = 0; i < 4; i++) {
+            int account = i;
+            outOfBounds("balance of " + i + " before open", () -> x.balance(account));
+            due("open", x.open(10 + i), i);
+            due("balance of " + i, x.balance(i), 10 + i);
         }
     }
 
-    private static void refusesAccount(CallLedger x, int account) {
-        Class<IndexOutOfBoundsException> want = IndexOutOfBoundsException.class;
-        Check.dueThrow("code of no account", want, () -> x.code(account, 1));
-        Check.dueThrow("seal of no account", want, () -> x.seal(account));
-        Check.dueThrow("balance of no account", want, () -> x.balance(account));
-        Check.dueThrow("storage of no account", want, () -> x.storage(account, 0));
-        Check.dueThrow("transact without account", want, () -> x.transact(account, account, -1, -1));
-    }
-
-    private static void openGivesNumbers() {
+    private static void atMost24() {
+        sentence("NONE when there are 24");
         CallLedger x = new CallLedger();
         for (int i = 0; i < 24; i++) {
-            Check.due("open " + i, x.open(i), i);
-            Check.due("supply after open " + i, x.supply(), i * (i + 1) / 2);
-            Check.due("storage of a new account", x.storage(i, i), 0);
+            due("open of number " + i, x.open(i), i);
         }
-        Check.due("a 25th account", x.open(0), CallLedger.NONE);
-        Check.dueThrow("a wrong 25th account", IllegalArgumentException.class, () -> x.open(-1));
+        due("a 25th account", x.open(0), NONE);
+        due("a 25th account with a balance", x.open(5), NONE);
+        due("a 25th account with too much", x.open(MAX), NONE);
+        outOfBounds("balance of a 25th", () -> x.balance(24));
         for (int i = 0; i < 24; i++) {
-            Check.due("balance " + i, x.balance(i), i);
+            due("balance of " + i, x.balance(i), i);
         }
-        refusesAccount(x, 24);
-        refusesAccount(x, -1);
+        due("supply()", x.supply(), 276);
+        sentence("Exceptions come before NONE");
+        wrongArgument("a 25th account with -1", () -> x.open(-1));
     }
 
-    private static void openRefuses() {
-        CallLedger x = new CallLedger();
-        Check.dueThrow("open(-1)", IllegalArgumentException.class, () -> x.open(-1));
-        Check.dueThrow("open(MIN)", IllegalArgumentException.class, () -> x.open(Integer.MIN_VALUE));
-        Check.due("open all but one", x.open(2147483646), 0);
-        Check.due("open too much", x.open(2), CallLedger.NONE);
-        Check.due("open far too much", x.open(2147483647), CallLedger.NONE);
-        Check.due("supply after refusals", x.supply(), 2147483646);
-        refusesAccount(x, 1);
-        Check.due("open the last one", x.open(1), 1);
-        Check.due("open one above", x.open(1), CallLedger.NONE);
-        Check.due("open nothing", x.open(0), 2);
-        Check.due("supply at its most", x.supply(), 2147483647);
+    private static void aNewAccountIsEmpty() {
+        sentence("An account more, with a balance, an empty code and storage");
+        CallLedger x = filledTo(150);
+        int last = x.open(77);
+        due("its balance", x.balance(last), 77);
+        due("storage for 0", x.storage(last, 0), 0);
+        due("storage for a key that another one has", x.storage(last, -10), 0);
+        due("a transaction to it", x.transact(last, last, 0, 0), 0);
+        due("its first word", x.code(last, END), 1);
     }
 
-    private static void codeCounts() {
+    private static void balanceBelowZero() {
+        sentence("IllegalArgumentException: balance is below 0");
         CallLedger x = new CallLedger();
-        x.open(0);
-        x.open(0);
-        for (int i = 1; i <= 160; i++) {
-            Check.due("word " + i, x.code(0, Check.push(i)), i);
+        wrongArgument("open(-1)", () -> x.open(-1));
+        wrongArgument("open(MIN)", () -> x.open(MIN));
+        due("open(0)", x.open(0), 0);
+        due("its balance", x.balance(0), 0);
+        due("open(1)", x.open(1), 1);
+        due("its balance", x.balance(1), 1);
+        due("open(MAX - 1)", x.open(MAX - 1), 2);
+        sentence("Exceptions come before NONE");
+        wrongArgument("open(-1) when all have 2147483647", () -> x.open(-1));
+        wrongArgument("open(MIN) when all have 2147483647", () -> x.open(MIN));
+    }
+
+    private static void allBalancesTogether() {
+        sentence("all balances together would be above 2147483647");
+        CallLedger x = new CallLedger();
+        due("open(MAX)", x.open(MAX), 0);
+        due("one above", x.open(1), NONE);
+        due("so far above that an int wraps", x.open(MAX), NONE);
+        due("nothing more", x.open(0), 1);
+        due("supply()", x.supply(), MAX);
+
+        CallLedger y = new CallLedger();
+        y.open(MAX - 1);
+        due("one above MAX", y.open(2), NONE);
+        due("just MAX", y.open(1), 1);
+        due("supply()", y.supply(), MAX);
+
+        CallLedger z = new CallLedger();
+        z.open(1000000000);
+        z.open(1000000000);
+        due("a third one above", z.open(147483648), NONE);
+        due("a third one to MAX", z.open(147483647), 2);
+        due("a fourth above", z.open(1), NONE);
+        due("a fourth with nothing", z.open(0), 3);
+        due("supply()", z.supply(), MAX);
+        lastAccountTakesTheRest();
+    }
+
+    private static void lastAccountTakesTheRest() {
+        CallLedger x = new CallLedger();
+        for (int i = 0; i < 23; i++) {
+            x.open(90000000);
         }
-        Check.due("word 161", x.code(0, 0), CallLedger.NONE);
-        Check.due("word 162", x.code(0, 255), CallLedger.NONE);
-        Check.due("first word of another code", x.code(1, 255), 1);
-        Check.due("the long code is good", x.seal(0), CallLedger.NONE);
+        due("the 24th above", x.open(77483648), NONE);
+        due("the 24th to MAX", x.open(77483647), 23);
+        due("supply()", x.supply(), MAX);
     }
 
-    private static void codeRefuses() {
+    private static void allBalancesTogetherBehindTransactions() {
         CallLedger x = new CallLedger();
-        Check.account(x, 0, Check.times(160, 0));
-        Check.dueThrow("code behind a full sealed one", IllegalStateException.class, () -> x.code(0, 0));
-        Check.account(x, 0);
-        Check.dueThrow("code behind an empty sealed one", IllegalStateException.class, () -> x.code(1, 0));
-        Check.dueThrow("code of no account", IndexOutOfBoundsException.class, () -> x.code(2, 0));
-    }
-
-    private static void sealTestsWords() {
-        for (int instruction = 0; instruction < 256; instruction++) {
-            for (int n : new int[] {-8388608, -1, 0, 1, 3, 4, 8, 9, 15, 16, 8388607}) {
-                CallLedger x = new CallLedger();
-                x.open(0);
-                x.code(0, 0);
-                x.code(0, Check.word(instruction, n));
-                x.code(0, 0);
-                int want = isGood(instruction, n, 3) ? CallLedger.NONE : 1;
-                Check.due("seal of " + instruction + " with " + n, x.seal(0), want);
-            }
-        }
-        for (int n = 159; n <= 161; n++) {
-            CallLedger x = new CallLedger();
-            x.open(0);
-            for (int i = 0; i < 160; i++) {
-                x.code(0, Check.word(17, n));
-            }
-            Check.due("seal of a jump to " + n, x.seal(0), n <= 160 ? CallLedger.NONE : 0);
-        }
-    }
-
-    private static boolean isGood(int instruction, int n, int length) {
-        return switch (instruction) {
-            case 3 -> n >= 0 && n <= 15;
-            case 4 -> n >= 1 && n <= 15;
-            case 16, 17 -> n >= 0 && n <= length;
-            case 27 -> n >= 0 && n <= 8;
-            default -> instruction <= 29;
-        };
-    }
-
-    private static void sealEmptiesBadCode() {
-        CallLedger x = new CallLedger();
+        x.open(MAX - 5);
         x.open(0);
-        x.code(0, Check.push(7));
-        x.code(0, 26);
-        x.code(0, 30);
-        x.code(0, 31);
-        Check.due("the first bad word", x.seal(0), 2);
-        Check.due("the code is empty and open", x.code(0, Check.push(9)), 1);
-        x.code(0, 26);
-        Check.due("the second code is good", x.seal(0), CallLedger.NONE);
-        Check.due("it runs", x.transact(0, 0, 0, 10), 0);
-        Check.due("its result", x.result(), 9);
+        due("all but a few go", x.transact(0, 1, MAX - 9, 0), 0);
+        due("one above MAX", x.open(6), NONE);
+        due("just MAX", x.open(5), 2);
     }
 
-    private static void sealRefuses() {
-        CallLedger x = new CallLedger();
-        x.open(0);
-        Check.due("seal of an empty code", x.seal(0), CallLedger.NONE);
-        Check.dueThrow("seal again", IllegalStateException.class, () -> x.seal(0));
-        Check.dueThrow("seal of no account", IndexOutOfBoundsException.class, () -> x.seal(1));
-    }
-
-    private static void unsealedCodeIsEmpty() {
+    private static void noSuchAccount() {
+        sentence("IndexOutOfBoundsException: there is no such account");
         CallLedger x = new CallLedger();
         x.open(5);
-        x.code(0, Check.push(7));
-        x.code(0, 29);
-        Check.due("a code that is not sealed", x.transact(0, 0, 5, 0), 0);
-        Check.due("its result", x.result(), 0);
-        Check.due("it can grow", x.code(0, 0), 3);
-        x.seal(0);
-        Check.due("when sealed", x.transact(0, 0, 5, 2), 1);
-        Check.due("its result when sealed", x.result(), 7);
-    }
-
-    private static void argumentsCount() {
-        CallLedger x = new CallLedger();
-        for (int i = 1; i <= 8; i++) {
-            Check.due("argument " + i, x.argument(-i), i);
+        x.open(6);
+        x.open(7);
+        for (int account : NO_ACCOUNTS) {
+            outOfBounds("balance(" + account + ")", () -> x.balance(account));
+            outOfBounds("storage(" + account + ", 0)", () -> x.storage(account, 0));
+            outOfBounds("code(" + account + ", 0)", () -> x.code(account, 0));
+            outOfBounds("seal(" + account + ")", () -> x.seal(account));
+            outOfBounds("transact from " + account, () -> x.transact(account, 0, 0, 0));
+            outOfBounds("transact to " + account, () -> x.transact(0, account, 0, 0));
         }
-        Check.due("a ninth argument", x.argument(1), CallLedger.NONE);
-        int echo = Check.account(x, 0, Check.row(Check.push(7), 20, Check.push(8), 20, 5, 26));
-        Check.dueThrow("a refused transaction", IllegalArgumentException.class,
-                () -> x.transact(echo, echo, 1, 0));
-        Check.due("arguments outlive a refusal", x.argument(1), CallLedger.NONE);
-        Check.due("the echo", x.transact(echo, echo, 0, 100), 0);
-        Check.due("argument 7 and no argument 8", x.result(), -8);
-        Check.due("arguments are gone", x.argument(4), 1);
-        Check.due("a trap", x.transact(echo, echo, 0, 0), 2);
-        Check.due("arguments are gone with a trap", x.argument(4), 1);
-        Check.due("no argument 7", x.transact(echo, echo, 0, 100), 0);
-        Check.due("its result", x.result(), 0);
+        due("balance(0)", x.balance(0), 5);
+        due("balance(2)", x.balance(2), 7);
+        due("storage(2, 0)", x.storage(2, 0), 0);
+        due("code(2, 0)", x.code(2, 0), 1);
+        due("seal(2)", x.seal(2), NONE);
+        due("transact(2, 0, 7, 0)", x.transact(2, 0, 7, 0), 0);
+        due("transact(0, 2, 12, 1)", x.transact(0, 2, 12, 1), 0);
     }
 
-    private static void balancesAndSupply() {
+    private static void balanceDownToZero() {
+        sentence("a BALANCE, not below 0");
         CallLedger x = new CallLedger();
-        x.open(2147483600);
+        x.open(3);
+        x.open(0);
+        due("all of it", x.transact(0, 1, 3, 0), 0);
+        due("nothing is left", x.balance(0), 0);
+        wrongArgument("one more", () -> x.transact(0, 1, 1, 0));
+        due("nothing of nothing", x.transact(0, 1, 0, 0), 0);
+        due("nothing is left", x.balance(0), 0);
+        due("the other has all", x.balance(1), 3);
+    }
+
+    private static void balanceUpToAll() {
+        sentence("An account's balance");
+        CallLedger x = new CallLedger();
+        x.open(MAX - 47);
         x.open(47);
-        Check.due("all of it goes", x.transact(0, 1, 2147483600, 0), 0);
-        Check.due("nothing is left", x.balance(0), 0);
-        Check.due("the other has all", x.balance(1), 2147483647);
-        Check.due("to itself", x.transact(1, 1, 2147483647, 0), 0);
-        Check.due("it still has all", x.balance(1), 2147483647);
-        Check.due("supply", x.supply(), 2147483647);
+        due("all of it goes", x.transact(0, 1, MAX - 47, 0), 0);
+        due("the one has nothing", x.balance(0), 0);
+        due("the other has all", x.balance(1), MAX);
+        due("all of it to itself", x.transact(1, 1, MAX, 0), 0);
+        due("it still has all", x.balance(1), MAX);
+    }
+
+    private static void supplyStays() {
+        sentence("All balances together");
+        CallLedger x = new CallLedger();
+        x.open(1000);
+        due("of one", x.supply(), 1000);
+        int back = account(x, 20, push(5), REVERT);
+        int giver = account(x, 3, call(0, 2, 0), call(back, 1, 50));
+        due("of three", x.supply(), 1023);
+        x.transact(0, back, 7, 100);
+        due("behind a reverted transaction", x.supply(), 1023);
+        due("a transaction with calls", x.transact(0, giver, 7, 500), 0);
+        due("behind calls", x.supply(), 1023);
+        due("a refused account", x.open(MAX), NONE);
+        due("behind a refused account", x.supply(), 1023);
+    }
+
+    private static void fiveHundredAndTwelveCalls() {
+        sentence("An object is used for at most 512 calls");
+        CallLedger x = new CallLedger();
+        int[] words = code(push(1), copy(0), GAS, STORE, push(1), ADD, copy(0), jumpIf(1));
+        x.open(1);
+        for (int word : words) {
+            x.code(0, word);
+        }
+        x.seal(0);
+        for (int calls = words.length + 2; calls < 511; calls++) {
+            due("call " + (calls + 1), x.transact(0, 0, 1, 10000), 2);
+        }
+        due("call 512", x.used(), 10000);
     }
 }

@@ -1,288 +1,471 @@
-/** Promise 6: instruction 27, runs within runs, and the undoing of what a failed one did. */
-public final class CallTest {
+/** The instruction 27 CALL: what it pops, its price, what it refuses, and the run that it begins. */
+public final class CallTest extends Bench {
     public static void main(String[] args) {
-        resultsComeBack();
-        argumentsInOrder();
-        surroundings();
+        poppedInOrder();
+        noArgumentsToEight();
+        argumentsOfEachRun();
         price();
-        refusedCalls();
-        refusedCallsTakeTheirArguments();
-        gasShare();
+        priceWithFewerThanTwo();
+        noAccountT();
+        noAccountTOf24();
+        amountBelowZeroOrAboveTheBalance();
+        amountAboveWhatIsLeft();
+        limitBelowZero();
+        refusedForSeveralReasons();
+        refusedTakesItsArguments();
+        amountGoesFirst();
+        itself();
+        callerAndValue();
+        callerAndValueOfEightRuns();
+        gasIsTheLimit();
+        gasIsNoMoreThanTheShare();
+        eighthIsRoundedDown();
+        noGasLeft();
+        callerDoesNotHaveIt();
         gasComesBack();
-        trapsOfEveryKindAreUndone();
-        innerWorkIsUndoneWithTheOuter();
-        onlyTheFailedPartIsUndone();
+        resultAndHowItEnded();
         eightRuns();
-        reentry();
-        unsealedIsEmpty();
-        fullStorageWithin();
-        Check.finish();
+        eightRunsOfManyAccounts();
+        manyCallsOneBehindTheOther();
+        depthCountsAgain();
+        finish();
     }
 
-    /** Calls t with v, g and arguments, the last of these pushed first. */
-    private static int[] call(int t, int v, int g, int... arguments) {
-        int[] turned = new int[arguments.length];
-        for (int i = 0; i < turned.length; i++) {
-            turned[i] = arguments[arguments.length - 1 - i];
-        }
-        return Check.join(Check.pushes(turned), Check.pushes(g, v, t),
-                Check.row(Check.word(27, arguments.length)));
+    /** Ends with the two numbers that the call of account 0 pushed, as BOTH tells them. */
+    private static void callGives(String name, CallLedger x, int want, int v, int g, int... arguments) {
+        int caller = account(x, 9, call(0, v, g, arguments), BOTH);
+        due(name + ": transact", x.transact(caller, caller, 0, 1000), 0);
+        due(name, x.result(), want);
     }
 
-    /** Ends with 10 times the called one's result and whether it ended well added. */
-    private static final int[] BOTH = {Check.word(4, 1), Check.push(10), 7, 5, 26};
-
-    private static void resultsComeBack() {
+    private static void poppedInOrder() {
+        sentence("popped are an account t, an amount v, a limit g, and then n numbers");
         CallLedger x = new CallLedger();
-        int seven = Check.account(x, 0, Check.row(Check.push(7), 26));
-        int back = Check.account(x, 0, Check.row(Check.push(-8), 29));
-        int trap = Check.account(x, 0, Check.row(Check.push(9), 2, 2));
-        int empty = Check.account(x, 0);
-        int[][] wanted = {{seven, 71}, {back, -80}, {trap, 0}, {empty, 1}};
-        for (int[] want : wanted) {
-            int caller = Check.account(x, 0, Check.join(call(want[0], 0, 100), BOTH));
-            Check.due("the caller ends", x.transact(0, caller, 0, 1000), 0);
-            Check.due("calling " + want[0], x.result(), want[1]);
+        account(x, 0, GAS, LOG, VALUE, LOG, push(0), ARGUMENT, LOG, push(1), ARGUMENT, LOG);
+        int caller = account(x, 50, push(12), push(11), push(100), push(3), push(0), word(27, 2));
+        due("transact", x.transact(caller, caller, 0, 1000), 0);
+        due("limit 100, amount 3, arguments 11 and 12", state(x),
+                "3: 47: supply 50 keys 0 log 99 3 11 12 used " + x.used() + " result 0");
+    }
+
+    private static void noArgumentsToEight() {
+        sentence("n numbers, which are the call's arguments 0, 1, ..");
+        for (int n = 0; n <= 8; n++) {
+            CallLedger x = new CallLedger();
+            int[] digits = {push(0)};
+            for (int i = 0; i < 9; i++) {
+                digits = code(digits, push(10), MULTIPLY, push(i), ARGUMENT, ADD);
+            }
+            int reader = account(x, 0, digits, RETURN);
+            int[] arguments = new int[n];
+            int want = 0;
+            for (int i = 0; i < 9; i++) {
+                want = 10 * want + (i < n ? i + 1 : 0);
+                if (i < n) {
+                    arguments[i] = i + 1;
+                }
+            }
+            int caller = account(x, 0, push(7), push(7), call(reader, 0, 500, arguments), DROP, RETURN);
+            x.argument(9);
+            due(n + " arguments: transact", x.transact(0, caller, 0, 1000), 0);
+            due(n + " arguments, none of them the caller's", x.result(), want);
         }
     }
 
-    private static void argumentsInOrder() {
+    private static void argumentsOfEachRun() {
+        sentence("n numbers, which are the call's arguments 0, 1, ..");
         CallLedger x = new CallLedger();
-        int[] digits = {Check.push(0)};
-        for (int i = 0; i < 9; i++) {
-            digits = Check.join(digits, Check.row(Check.push(10), 7, Check.push(i), 20, 5));
-        }
-        int reader = Check.account(x, 0, Check.join(digits, Check.row(26)));
-        int[] drop = {2, 26};
-        int eight = Check.account(x, 0, Check.join(call(reader, 0, 500, 1, 2, 3, 4, 5, 6, 7, 8), drop));
-        int two = Check.account(x, 0, Check.join(call(reader, 0, 500, 3, 9), drop));
-        int none = Check.account(x, 0, Check.join(call(reader, 0, 500), drop));
+        int echo = account(x, 0, push(0), ARGUMENT, RETURN);
+        int second = account(x, 0, call(echo, 0, 50, 3), DROP, DROP, call(echo, 0, 50), BOTH);
         x.argument(4);
-        x.transact(0, eight, 0, 1000);
-        Check.due("eight arguments", x.result(), 123456780);
-        x.transact(0, two, 0, 1000);
-        Check.due("two arguments", x.result(), 390000000);
-        x.argument(4);
-        x.transact(0, none, 0, 1000);
-        Check.due("no arguments", x.result(), 0);
-        int own = Check.account(x, 0, Check.join(call(reader, 0, 500, 3), Check.row(2, 2, Check.push(0), 20, 26)));
+        x.transact(0, second, 0, 500);
+        due("a second call without arguments has none of the first's", x.result(), 1);
+        int own = account(x, 0, call(echo, 0, 50, 3), push(0), ARGUMENT, RETURN);
         x.argument(6);
-        x.transact(0, own, 0, 1000);
-        Check.due("its own argument behind a call", x.result(), 6);
-    }
-
-    private static void surroundings() {
-        CallLedger x = new CallLedger();
-        x.open(100);
-        int callee = Check.account(x, 5,
-                Check.row(21, 25, 22, 25, 23, 25, 23, 24, 25, 21, 24, 25, 28, 25));
-        int caller = Check.account(x, 40, Check.join(call(callee, 7, 90), Check.row(21, 25, 22, 25, 23, 25)));
-        Check.due("calls", x.transact(0, caller, 3, 1000), 0);
-        int[] want = {caller, 7, callee, 12, 36, 90 - 5 * 8 - 2 * 5 - 6, 0, 3, caller};
-        Check.due("logged", x.logged(), want.length);
-        for (int i = 0; i < Math.min(want.length, x.logged()); i++) {
-            Check.due("log " + i, x.log(i), want[i]);
-        }
-        Check.due("balance of the payer", x.balance(0), 97);
-        Check.due("balance of the caller", x.balance(caller), 36);
-        Check.due("balance of the called", x.balance(callee), 12);
-        Check.due("supply", x.supply(), 145);
+        x.transact(0, own, 0, 500);
+        due("the caller has its own behind a call", x.result(), 6);
+        int refused = account(x, 0, call(99, 0, 50, 3), DROP, DROP, call(echo, 0, 50), BOTH);
+        x.transact(0, refused, 0, 500);
+        due("a call has none of a refused one's", x.result(), 1);
     }
 
     private static void price() {
-        CallLedger x = new CallLedger();
-        int empty = Check.account(x, 0);
-        int free = Check.account(x, 9, call(empty, 0, 0));
-        int paid = Check.account(x, 9, call(empty, 1, 0));
-        int below = Check.account(x, 9, call(empty, -1, 0));
-        int[][] prices = {{free, 25}, {paid, 40}, {below, 40}};
+        sentence("its price is 25, and 15 more if v isn't 0");
+        int[][] prices = {{0, 25}, {1, 40}, {9, 40}, {10, 40}, {-1, 40}, {LEAST_N, 40}, {MOST_N, 40}};
         for (int[] one : prices) {
-            Check.due("price - 1", x.transact(0, one[0], 0, 3 + one[1] - 1), 2);
-            Check.due("price", x.transact(0, one[0], 0, 3 + one[1]), 0);
-            Check.due("used", x.used(), 3 + one[1]);
-            x.transact(0, one[0], 0, 1000);
-            Check.due("used of more", x.used(), 3 + one[1]);
+            CallLedger x = new CallLedger();
+            account(x, 0);
+            int caller = account(x, 9, call(0, one[0], 0));
+            String name = "v " + one[0];
+            due(name + ", 1 too little", x.transact(0, caller, 0, 3 + one[1] - 1), 2);
+            due(name + ", just enough", x.transact(0, caller, 0, 3 + one[1]), 0);
+            due(name + ", used", x.used(), 3 + one[1]);
+            due(name + ", balance of the called", x.balance(0), one[0] == 1 || one[0] == 9 ? one[0] : 0);
         }
-        Check.due("one went each time", x.balance(empty), 2);
     }
 
-    private static void refusedCalls() {
-        CallLedger x = new CallLedger();
-        int seven = Check.account(x, 0, Check.row(Check.push(7), 26));
-        int[][] calls = {{-1, 0, 50}, {24, 0, 50}, {23, 0, 50}, {seven, -1, 50}, {seven, 10, 50},
-            {seven, 0, -1}, {8388607, 0, 50}, {-8388608, 0, 50}, {seven, -8388608, 50}, {seven, 0, -8388608}};
-        for (int[] one : calls) {
-            int caller = Check.account(x, 9, Check.join(call(one[0], one[1], one[2]),
-                    Check.row(28, 25, 14, 26)));
-            Check.due("the caller ends", x.transact(0, caller, 0, 200), 0);
-            Check.due("the refused call pushed two zeros", x.result(), 0);
-            Check.due("it took no gas", x.log(x.logged() - 1), 196 - (one[1] == 0 ? 25 : 40));
-            Check.due("no balance changed", x.balance(seven), 0);
-        }
-        int all = Check.account(x, 9, Check.join(call(seven, 9, 50), BOTH));
-        x.transact(0, all, 0, 200);
-        Check.due("a call with all that it has", x.result(), 71);
-        Check.due("all went", x.balance(seven), 9);
+    private static void priceWithFewerThanTwo() {
+        sentence("(25 when there are fewer than two on the stack)");
+        int call = word(27, 0);
+        runs("none, 24", code(call), 24, 2, 0, 24);
+        runs("none, 25", code(call), 25, 3, 0, 25);
+        runs("one, 24", code(push(9), call), 25, 2, 0, 25);
+        runs("one, 25", code(push(9), call), 26, 3, 0, 26);
+        runs("two with v 0, 24", code(push(0), push(9), call), 26, 2, 0, 26);
+        runs("two with v 0, 25", code(push(0), push(9), call), 27, 3, 0, 27);
+        runs("two with v 1, 39", code(push(1), push(0), call), 41, 2, 0, 41);
+        runs("two with v 1, 40", code(push(1), push(0), call), 42, 3, 0, 42);
     }
 
-    private static void refusedCallsTakeTheirArguments() {
-        CallLedger x = new CallLedger();
-        int[] code = Check.join(Check.row(Check.push(77)), call(20, 0, 50, 1, 2, 3), Check.row(2, 2, 26));
-        int caller = Check.account(x, 0, code);
-        Check.due("the caller ends", x.transact(0, caller, 0, 200), 0);
-        Check.due("what is below the call's numbers", x.result(), 77);
+    /** The words of a refused call must go on with two zeros, the gas but its price, and no amount gone. */
+    private static void refuses(String name, CallLedger x, int t, int v, int g) {
+        int caller = account(x, 9, push(33), pushInt(g), pushInt(v), pushInt(t), word(27, 0),
+                GAS, LOG, LOG, LOG, LOG);
+        int logged = x.logged();
+        String before = balancesOf(x, caller);
+        due(name + ": transact", x.transact(caller, caller, 0, 1000), 0);
+        due(name + ": logged", x.logged(), logged + 4);
+        due(name + ": gas", x.log(logged), 1000 - 19 - (v == 0 ? 25 : 40) - 1);
+        due(name + ": 0 on the top", x.log(logged + 1), 0);
+        due(name + ": 0 below it", x.log(logged + 2), 0);
+        due(name + ": what was there before", x.log(logged + 3), 33);
+        due(name + ": balances", balancesOf(x, caller), before);
     }
 
-    private static void gasShare() {
-        CallLedger x = new CallLedger();
-        int teller = Check.account(x, 0, Check.row(28, 26));
-        int caller = Check.account(x, 0, Check.join(call(teller, 0, 3000), Check.row(2, 26)));
-        for (int left : new int[] {1, 2, 7, 8, 9, 15, 16, 17, 63, 64, 800, 801, 807, 808, 3428, 3429, 9972}) {
-            int given = Math.min(3000, left - left / 8);
-            int ending = x.transact(0, caller, 0, 28 + left);
-            if (left >= 4) {
-                Check.due("with " + left + " left", ending, 0);
-                Check.due("given of " + left, x.result(), given - 1);
-                Check.due("used of " + left, x.used(), 28 + 4);
-            } else {
-                Check.due("with " + left + " left", ending, 2);
-            }
+    private static String balancesOf(CallLedger x, int last) {
+        StringBuilder all = new StringBuilder();
+        for (int i = 0; i <= last; i++) {
+            all.append(x.balance(i)).append(' ');
         }
-        int miser = Check.account(x, 0, Check.join(call(teller, 0, 0), BOTH));
-        Check.due("no gas given", x.transact(0, miser, 0, 500), 0);
-        Check.due("the called one trapped", x.result(), 0);
+        return all.toString();
+    }
+
+    private static void noAccountT() {
+        sentence("If there is no account t");
+        for (int t : new int[] {MIN, -2, -1, 2, 3, 23, 24, MAX}) {
+            CallLedger x = new CallLedger();
+            account(x, 0, push(7), RETURN);
+            refuses("account " + t + " of two", x, t, 0, 50);
+        }
+        CallLedger x = new CallLedger();
+        account(x, 0, push(7), RETURN);
+        callGives("the first of two", x, 71, 0, 50);
+        CallLedger y = new CallLedger();
+        int caller = account(y, 0, call(1, 0, 50), BOTH);
+        account(y, 0, push(7), RETURN);
+        due("transact", y.transact(0, caller, 0, 500), 0);
+        due("the last of two", y.result(), 71);
+    }
+
+    private static void noAccountTOf24() {
+        CallLedger x = new CallLedger();
+        int caller = account(x, 0, push(50), push(0), push(0), ARGUMENT, word(27, 0), BOTH);
+        for (int i = 1; i < 23; i++) {
+            x.open(0);
+        }
+        account(x, 0, push(7), RETURN);
+        int[][] asked = {{22, 1}, {23, 71}, {24, 0}, {25, 0}};
+        for (int[] one : asked) {
+            x.argument(one[0]);
+            due("transact", x.transact(0, caller, 0, 500), 0);
+            due("account " + one[0] + " of 24", x.result(), one[1]);
+        }
+    }
+
+    private static void amountBelowZeroOrAboveTheBalance() {
+        sentence("v is below 0 or above the account's balance");
+        for (int v : new int[] {MIN, -2, -1, 10, 11, MAX}) {
+            CallLedger x = new CallLedger();
+            account(x, 500, push(7), RETURN);
+            refuses("v " + v + " of 9", x, 0, v, 50);
+        }
+        for (int v : new int[] {0, 1, 8, 9}) {
+            CallLedger x = new CallLedger();
+            account(x, 500, push(7), RETURN);
+            callGives("v " + v + " of 9", x, 71, v, 50);
+            due("it went", x.balance(0), 500 + v);
+            due("what is left", x.balance(1), 9 - v);
+        }
+    }
+
+    private static void amountAboveWhatIsLeft() {
+        sentence("v is below 0 or above the account's balance");
+        CallLedger x = new CallLedger();
+        account(x, 5);
+        int twice = account(x, 9, call(0, 5, 0), LOG, DROP, call(0, 5, 0), LOG, DROP, call(0, 4, 0), LOG, DROP,
+                call(0, 1, 0), LOG, DROP);
+        due("transact", x.transact(0, twice, 0, 1000), 0);
+        due("5 goes, 5 is above what is left, 4 goes, 1 is above", state(x),
+                "14: 0: supply 14 keys 0 log 1 0 1 0 used " + x.used() + " result 0");
+        due("with an amount of 5", x.transact(0, twice, 5, 1000), 0);
+        due("5 came and goes", x.balance(twice), 0);
+    }
+
+    private static void limitBelowZero() {
+        sentence("g is below 0");
+        for (int g : new int[] {MIN, -2, -1}) {
+            CallLedger x = new CallLedger();
+            account(x, 0, push(7), RETURN);
+            refuses("g " + g, x, 0, 0, g);
+        }
+        CallLedger x = new CallLedger();
+        account(x, 0, push(7), RETURN);
+        callGives("g 0 ends with a trap", x, 0, 0, 0);
+        callGives("g 1 ends with a trap", x, 0, 0, 1);
+        callGives("g 2 is enough", x, 71, 0, 2);
+        CallLedger y = new CallLedger();
+        account(y, 0);
+        callGives("g -1 of an empty code", y, 0, 0, -1);
+        callGives("g 0 of an empty code", y, 1, 0, 0);
+        callGives("much", y, 1, 0, MOST_N);
+    }
+
+    private static void refusedForSeveralReasons() {
+        sentence("0 and then 0 are pushed");
+        CallLedger x = new CallLedger();
+        account(x, 0, push(7), RETURN);
+        refuses("t and v", x, 9, -1, 50);
+        refuses("t and g", x, -1, 0, -1);
+        refuses("v and g", x, 0, 10, -1);
+        refuses("all", x, MIN, MIN, MIN);
+    }
+
+    private static void refusedTakesItsArguments() {
+        sentence("0 and then 0 are pushed");
+        for (int n = 0; n <= 8; n++) {
+            CallLedger x = new CallLedger();
+            int caller = account(x, 0, push(77), call(20, 0, 50, new int[n]), DROP, DROP, RETURN);
+            due("transact", x.transact(0, caller, 0, 200), 0);
+            due("what is below " + n + " arguments", x.result(), 77);
+        }
+        CallLedger x = new CallLedger();
+        int full = account(x, 0, times(29, push(1)), call(20, 0, 50), ADD, ADD, RETURN);
+        due("a refused call with a full stack", x.transact(0, full, 0, 200), 0);
+        due("29 numbers and two zeros", x.result(), 1);
+    }
+
+    private static void amountGoesFirst() {
+        sentence("Otherwise v goes from the account to t");
+        CallLedger x = new CallLedger();
+        account(x, 5, SELF, BALANCE, LOG, CALLER, BALANCE, LOG);
+        int caller = account(x, 9, call(0, 9, 100), SELF, BALANCE, LOG);
+        due("transact", x.transact(caller, caller, 0, 500), 0);
+        due("what the called one sees, and the caller then", state(x),
+                "14: 0: supply 14 keys 0 log 14 0 0 used " + x.used() + " result 0");
+    }
+
+    private static void itself() {
+        sentence("Otherwise v goes from the account to t");
+        CallLedger x = new CallLedger();
+        int self = account(x, 9, push(0), ARGUMENT, jumpIf(13),
+                push(1), push(200), push(9), push(0), word(27, 1), LOG, DROP, SELF, BALANCE, RETURN,
+                SELF, BALANCE, LOG, CALLER, LOG, VALUE, LOG);
+        due("transact", x.transact(self, self, 0, 500), 0);
+        due("all of it to itself", state(x), "9: supply 9 keys 0 log 9 0 9 1 used " + x.used() + " result 9");
+    }
+
+    private static void callerAndValue() {
+        sentence("with the account as its caller, v as its value");
+        CallLedger x = new CallLedger();
+        account(x, 50);
+        int last = account(x, 0, CALLER, LOG, VALUE, LOG, SELF, LOG);
+        int middle = account(x, 20, call(last, 9, 100), CALLER, LOG, VALUE, LOG, SELF, LOG);
+        int first = account(x, 20, call(middle, 4, 500), CALLER, LOG, VALUE, LOG, SELF, LOG);
+        due("transact", x.transact(0, first, 6, 2000), 0);
+        dueLog(x, middle, 9, last, first, 4, middle, 0, 6, first);
+    }
+
+    private static void callerAndValueOfEightRuns() {
+        sentence("with the account as its caller, v as its value");
+        CallLedger x = new CallLedger();
+        for (int i = 0; i < 8; i++) {
+            account(x, 20, CALLER, LOG, VALUE, LOG, SELF, LOG, call(i + 1, 11 + i, 9000));
+        }
+        x.open(0);
+        due("transact", x.transact(3, 0, 10, 10000), 0);
+        dueLog(x, 3, 10, 0, 0, 11, 1, 1, 12, 2, 2, 13, 3, 3, 14, 4, 4, 15, 5, 5, 16, 6, 6, 17, 7);
+    }
+
+    private static void dueLog(CallLedger x, int... want) {
+        due("logged()", x.logged(), want.length);
+        for (int i = 0; i < Math.min(want.length, x.logged()); i++) {
+            due("log(" + i + ")", x.log(i), want[i]);
+        }
+    }
+
+    /** A caller of a teller with this limit, that has so much left when it has paid the call. */
+    private static void given(int left, int limit, int want) {
+        CallLedger x = new CallLedger();
+        int teller = account(x, 0, TELLER);
+        int caller = account(x, 0, call(teller, 0, limit), DROP, RETURN);
+        due(left + " left, limit " + limit + ": transact", x.transact(0, caller, 0, 28 + left), 0);
+        due(left + " left, limit " + limit + ": given", x.result() + 1, want);
+        due(left + " left, limit " + limit + ": used", x.used(), 28 + 4);
+    }
+
+    private static void gasIsTheLimit() {
+        sentence("as gas: g");
+        given(800, 2, 2);
+        given(800, 3, 3);
+        given(9972, 5000, 5000);
+    }
+
+    private static void gasIsNoMoreThanTheShare() {
+        sentence("but no more than what is left less an eighth of it");
+        given(800, 699, 699);
+        given(800, 700, 700);
+        given(800, 701, 700);
+        given(800, 800, 700);
+        given(800, 801, 700);
+        given(800, MOST_N, 700);
+        given(9972, MOST_N, 9972 - 1246);
+        given(9968, MOST_N, 9968 - 1246);
+        given(9967, MOST_N, 9967 - 1245);
+    }
+
+    private static void eighthIsRoundedDown() {
+        sentence("(rounded down)");
+        int[][] shares = {{4, 4}, {7, 7}, {8, 7}, {9, 8}, {15, 14}, {16, 14}, {17, 15}, {23, 21}, {24, 21},
+            {63, 56}, {64, 56}, {65, 57}, {807, 707}, {808, 707}};
+        for (int[] one : shares) {
+            given(one[0], MOST_N, one[1]);
+        }
+    }
+
+    private static void noGasLeft() {
+        sentence("but no more than what is left less an eighth of it");
+        CallLedger x = new CallLedger();
+        int empty = account(x, 0);
+        int word = account(x, 0, push(7));
+        int callsEmpty = account(x, 9, call(empty, 1, 500));
+        int callsWord = account(x, 9, call(word, 1, 500));
+        due("an empty code without gas", x.transact(0, callsEmpty, 0, 43), 0);
+        due("it ended well", x.balance(empty), 1);
+        due("a word without gas", x.transact(0, callsWord, 0, 43), 0);
+        due("it ended with a trap", x.balance(word), 0);
+        due("a word with 1", x.transact(0, callsWord, 0, 44), 0);
+        due("it ended well", x.balance(word), 1);
+        due("used", x.used(), 44);
+    }
+
+    private static void callerDoesNotHaveIt() {
+        sentence("which the caller does not have meanwhile");
+        CallLedger x = new CallLedger();
+        int last = account(x, 0, GAS, LOG);
+        int middle = account(x, 0, call(last, 0, MOST_N), GAS, LOG);
+        int first = account(x, 0, call(middle, 0, MOST_N), GAS, LOG);
+        due("transact", x.transact(0, first, 0, 828), 0);
+        // 800 are left to the first, 700 given; 672 left to the middle, 588 given
+        due("logged()", x.logged(), 3);
+        due("the last one's", x.log(0), 588 - 1);
+        due("the middle one's then", x.log(1), 672 - 9 - 1);
+        due("the first one's then", x.log(2), 800 - 28 - 9 - 9 - 1);
     }
 
     private static void gasComesBack() {
+        sentence("its gas comes back, 0 with a trap");
         CallLedger x = new CallLedger();
-        int well = Check.account(x, 0, Check.row(Check.push(1), 26));
-        int back = Check.account(x, 0, Check.row(Check.push(1), 29));
-        int trap = Check.account(x, 0, Check.row(2));
-        int[][] kinds = {{well, 2}, {back, 2}, {trap, 100}};
+        // code, what it needs of 100
+        int[][] kinds = {{account(x, 0), 0}, {account(x, 0, push(1), RETURN), 2},
+            {account(x, 0, push(1), REVERT), 2}, {account(x, 0, jump(0)), 100}, {account(x, 0, DROP), 100},
+            {account(x, 0, GAS, jump(0)), 100}};
         for (int[] kind : kinds) {
-            int caller = Check.account(x, 0, Check.join(call(kind[0], 0, 100), Check.row(28, 26)));
-            x.transact(0, caller, 0, 1000);
-            Check.due("gas behind the call", x.result(), 1000 - 28 - kind[1] - 1);
-            Check.due("used", x.used(), 28 + kind[1] + 2);
+            int caller = account(x, 0, call(kind[0], 0, 100), GAS, RETURN);
+            due("transact", x.transact(0, caller, 0, 1000), 0);
+            due("left behind the call of " + kind[0], x.result(), 1000 - 28 - kind[1] - 1);
+            due("used", x.used(), 28 + kind[1] + 2);
         }
     }
 
-    /** Stores 5 for the key 1, logs 3, sends 2 to account 0, and then does what the last words say. */
-    private static int[] doesMuch(int... last) {
-        return Check.join(Check.row(Check.push(1), Check.push(5), 19, Check.push(3), 25), call(0, 2, 0),
-                Check.row(2, 2), last);
-    }
-
-    private static void trapsOfEveryKindAreUndone() {
-        int[][] lasts = {{Check.push(9), 29}, {Check.word(16, 11)}, {2}, {28, Check.word(16, 11)}};
-        for (int[] last : lasts) {
-            CallLedger x = new CallLedger();
-            x.open(10);
-            int inner = Check.account(x, 6, doesMuch(last));
-            int outer = Check.account(x, 20, Check.join(Check.row(Check.push(8), 25), call(inner, 4, 500), BOTH));
-            Check.due("the outer one ends well", x.transact(0, outer, 1, 2000), 0);
-            Check.due("the inner one did not", x.result(), last[0] == Check.push(9) ? 90 : 0);
-            Check.due("balance 0", x.balance(0), 9);
-            Check.due("balance of the inner one", x.balance(inner), 6);
-            Check.due("balance of the outer one", x.balance(outer), 21);
-            Check.due("storage", x.storage(inner, 1), 0);
-            Check.due("keys", x.keys(), 0);
-            Check.due("logged", x.logged(), 1);
-            Check.due("log", x.log(0), 8);
+    private static void resultAndHowItEnded() {
+        sentence("if it ended well, its result and then 1 are pushed");
+        for (int result : new int[] {7, 0, -1, LEAST_N, MOST_N}) {
+            pushed(code(push(result), RETURN), result, 1);
+            pushed(code(push(result), END), 0, 1);
+            pushed(code(push(result)), 0, 1);
         }
+        pushed(code(), 0, 1);
+        pushed(code(pushInt(MIN), RETURN), MIN, 1);
+        sentence("its result (0 with a trap), and then 0, pushed");
+        for (int result : new int[] {7, 0, -1, LEAST_N, MOST_N}) {
+            pushed(code(push(result), REVERT), result, 0);
+            pushed(code(push(result), DROP, DROP), 0, 0);
+            pushed(code(push(result), jump(1)), 0, 0);
+            pushed(code(push(result), jump(0)), 0, 0);
+        }
+        pushed(code(pushInt(MIN), REVERT), MIN, 0);
     }
 
-    private static void innerWorkIsUndoneWithTheOuter() {
+    private static void pushed(int[] words, int result, int flag) {
         CallLedger x = new CallLedger();
-        x.open(10);
-        int innermost = Check.account(x, 6, doesMuch());
-        int middle = Check.account(x, 6, Check.join(call(innermost, 3, 900), Check.row(Check.push(4), 29)));
-        int outer = Check.account(x, 6, Check.join(call(middle, 3, 2000), BOTH));
-        Check.due("ends well", x.transact(0, outer, 0, 5000), 0);
-        Check.due("the middle one reverted", x.result(), 40);
-        Check.due("balances", x.balance(innermost) * 100 + x.balance(middle) * 10 + x.balance(outer), 666);
-        Check.due("balance 0", x.balance(0), 10);
-        Check.due("storage", x.storage(innermost, 1), 0);
-        Check.due("logged", x.logged(), 0);
-        Check.due("the innermost alone", x.transact(0, innermost, 0, 5000), 0);
-        Check.due("its storage", x.storage(innermost, 1), 5);
-        Check.due("logged then", x.logged(), 1);
+        int called = account(x, 0, words);
+        int caller = account(x, 0, push(33), call(called, 0, 100), LOG, LOG, LOG);
+        due("transact", x.transact(0, caller, 0, 1000), 0);
+        due("the top, the one below it, and what was there", state(x),
+                "0: 0: supply 0 keys 0 log " + flag + " " + result + " 33 used " + x.used() + " result 0");
     }
 
-    private static void onlyTheFailedPartIsUndone() {
-        CallLedger x = new CallLedger();
-        x.open(10);
-        int[] store = {Check.push(0), 20, Check.push(1), 20, 19};
-        int keep = Check.account(x, 0, store);
-        int lose = Check.account(x, 0, Check.join(call(keep, 0, 900, 1, 50), call(keep, 0, 900, 2, 60),
-                call(keep, 0, 900, 3, 0), call(keep, 0, 900, 1, 51), Check.row(29)));
-        int outer = Check.account(x, 0, Check.join(call(keep, 0, 900, 1, 40), call(keep, 0, 900, 3, 30),
-                call(lose, 0, 5000), call(keep, 0, 900, 4, 70)));
-        Check.due("ends well", x.transact(0, outer, 0, 10000), 0);
-        Check.due("written before", x.storage(keep, 1), 40);
-        Check.due("only in the failed part", x.storage(keep, 2), 0);
-        Check.due("taken away in the failed part", x.storage(keep, 3), 30);
-        Check.due("written behind it", x.storage(keep, 4), 70);
-        Check.due("keys", x.keys(), 3);
+    /** Logs argument 0 plus 1, calls itself with that, and logs how that ended. */
+    private static int[] deeper(int t) {
+        return code(push(0), ARGUMENT, push(1), ADD, copy(0), LOG, push(9000), push(0), push(t), word(27, 1),
+                LOG, RETURN);
     }
 
-    /** Each calls itself with all gas; argument 0 counts the runs, and the log keeps the counts. */
-    private static void eightRuns() {
-        CallLedger x = new CallLedger();
-        int[] code = {Check.push(0), 20, Check.push(1), 5, Check.word(3, 0), 25,
-            Check.push(9000), Check.push(0), 23, Check.word(27, 1), 25, 26};
-        int account = Check.account(x, 0, code);
-        Check.due("ends", x.transact(0, account, 0, 10000), 0);
-        Check.due("logged", x.logged(), 16);
+    private static void dueDepths(CallLedger x) {
+        due("logged()", x.logged(), 16);
         for (int i = 0; i < 8; i++) {
-            Check.due("run", x.log(i), i + 1);
-            Check.due("ended well", x.log(8 + i), i == 0 ? 0 : 1);
+            due("run", x.log(i), i + 1);
+            due("whether the call of run " + (8 - i) + " ended well", x.log(8 + i), i == 0 ? 0 : 1);
         }
     }
 
-    private static void reentry() {
+    private static void eightRuns() {
+        sentence("the run is the eighth one, each within the one before");
         CallLedger x = new CallLedger();
-        int[] code = {Check.push(0), 20, Check.word(17, 15),
-            Check.push(1), Check.push(5), 19,
-            Check.push(1), Check.push(900), Check.push(3), 23, Check.word(27, 1), 2, 2,
-            Check.push(1), Check.word(16, 19),
-            Check.push(1), Check.push(6), 19, Check.push(1),
-            18, 26};
-        int account = Check.account(x, 9, code);
-        Check.due("calls itself", x.transact(0, account, 0, 5000), 0);
-        Check.due("sees what the inner run stored", x.result(), 6);
-        Check.due("balance", x.balance(account), 9);
+        int self = account(x, 0, deeper(0));
+        due("transact", x.transact(0, self, 0, 10000), 0);
+        dueDepths(x);
     }
 
-    private static void unsealedIsEmpty() {
+    private static void eightRunsOfManyAccounts() {
+        sentence("the run is the eighth one, each within the one before");
         CallLedger x = new CallLedger();
-        x.open(4);
-        x.code(0, Check.push(5));
-        x.code(0, 29);
-        int caller = Check.account(x, 9, Check.join(call(0, 2, 50), BOTH));
-        Check.due("ends well", x.transact(0, caller, 0, 500), 0);
-        Check.due("as if empty", x.result(), 1);
-        Check.due("the amount went", x.balance(0), 6);
-    }
-
-    private static void fullStorageWithin() {
-        CallLedger x = new CallLedger();
-        int[] store = {Check.push(0), 20, Check.push(1), 19};
-        int keeper = Check.account(x, 0, store);
-        int[] fill = {Check.push(0), 20,
-            Check.word(3, 0), Check.word(3, 0), 19,
-            Check.push(1), 6, Check.word(3, 0), Check.push(0), 20, Check.push(100), 6, 11, Check.word(17, 15),
-            Check.word(16, 2)};
-        for (int i = 0; i < 5; i++) {
-            int filler = Check.account(x, 0, fill);
-            x.argument(1000);
-            Check.due("fill", x.transact(0, filler, 0, 10000), 0);
+        for (int i = 0; i < 9; i++) {
+            account(x, 0, deeper(i + 1));
         }
-        Check.due("keys", x.keys(), 500);
-        int caller = Check.account(x, 0, Check.join(call(keeper, 0, 300, 7), Check.row(28, 25), BOTH));
-        Check.due("the caller goes on", x.transact(0, caller, 0, 1000), 0);
-        Check.due("the called one trapped", x.result(), 0);
-        Check.due("its gas is gone", x.log(0), 1000 - 4 - 25 - 300 - 1);
-        Check.due("nothing stored", x.storage(keeper, 7), 0);
+        due("transact", x.transact(8, 0, 0, 10000), 0);
+        dueDepths(x);
+    }
+
+    private static void manyCallsOneBehindTheOther() {
+        sentence("the run is the eighth one, each within the one before");
+        CallLedger x = new CallLedger();
+        int seven = account(x, 0, push(7), RETURN);
+        int[] twelve = {};
+        for (int i = 0; i < 12; i++) {
+            twelve = code(twelve, call(seven, 0, 50), LOG, LOG);
+        }
+        int caller = account(x, 0, twelve);
+        due("transact", x.transact(0, caller, 0, 10000), 0);
+        due("logged()", x.logged(), 24);
+        for (int i = 0; i < 12; i++) {
+            due("call " + i + " ended well", x.log(2 * i), 1);
+            due("call " + i + "'s result", x.log(2 * i + 1), 7);
+        }
+    }
+
+    private static void depthCountsAgain() {
+        sentence("the run is the eighth one, each within the one before");
+        CallLedger x = new CallLedger();
+        int self = account(x, 0, deeper(0));
+        for (int i = 0; i < 2; i++) {
+            due("transact", x.transact(0, self, 0, 10000), 0);
+        }
+        due("eight runs in each transaction", x.logged(), 32);
+        due("the second one's eighth", x.log(23), 8);
+        int twice = account(x, 0, call(self, 0, 3000), call(self, 0, 3000));
+        due("transact", x.transact(0, twice, 0, 10000), 0);
+        due("seven runs in each call", x.logged(), 32 + 28);
+        due("the second one's seventh", x.log(32 + 14 + 6), 7);
     }
 }

@@ -5,193 +5,219 @@ import java.util.HashMap;
 import java.util.List;
 import java.util.Map;
 
-/** All promises: long runs of made-up calls, each answer held against a plain model's. */
-public final class ModelTest {
-    private static final int RUNS = 400;
-    private static final int CALLS = 500;
+/** All promises: runs of made-up calls, each answer held against a plain model's. */
+public final class ModelTest extends Bench {
+    private static final int RUNS = 1000;
+    // nothing is promised of an object behind its 512th call
+    private static final int MOST_CALLS = 512;
 
-    private static long seed;
     private static final int[] SEEN = new int[8];
+
+    private final int run;
+    private long seed;
+    private int calls;
+    private final CallLedger x = new CallLedger();
+    private final Model m = new Model();
+
+    private ModelTest(int run) {
+        this.run = run;
+        seed = run * 7919L;
+    }
 
     public static void main(String[] args) {
         for (int run = 1; run <= RUNS; run++) {
-            seed = run * 7919L;
-            oneRun(run);
+            new ModelTest(run).play();
         }
         for (int ending : new int[] {0, 1, 2, 3, 4, 6}) {
             if (SEEN[ending] == 0) {
-                Check.due("transactions with the ending " + ending, 0, 1);
+                due("transactions with the ending " + ending, 0, 1);
             }
         }
-        Check.finish();
+        finish();
     }
 
-    private static int below(int bound) {
+    private int below(int bound) {
         seed = seed * 6364136223846793005L + 1442695040888963407L;
         return (int) ((seed >>> 33) % bound);
     }
 
-    private static int pick(int... from) {
+    private int pick(int... from) {
         return from[below(from.length)];
     }
 
-    private static void oneRun(int run) {
-        CallLedger x = new CallLedger();
-        Model m = new Model();
-        for (int i = 0; i < 3 + below(4); i++) {
-            int balance = below(60);
-            Check.due("open", x.open(balance), m.open(balance));
+    private void play() {
+        int first = 3 + below(4);
+        for (int i = 0; i < first; i++) {
+            open(below(60));
         }
         if (run % 5 == 0) {
-            crowd(x, m);
+            crowd();
         }
-        for (int i = 0; i < CALLS; i++) {
-            oneCall(run, x, m);
+        for (int i = 0; i < first; i++) {
+            writeCode(i);
         }
-        compare(run, x, m);
+        int kept = 60 + below(60);
+        while (calls < MOST_CALLS - kept) {
+            oneCall();
+        }
+        compare();
     }
 
-    /** Fills the storage nearly up, so that the trap 6 comes now and then. */
-    private static void crowd(CallLedger x, Model m) {
-        int[] tops = {170, 340, 498};
-        int bottom = 0;
-        for (int top : tops) {
-            int[] words = {Check.push(top), Check.word(3, 0), Check.push(1), 19, Check.push(1), 6,
-                Check.word(3, 0), Check.push(bottom), 11, 12, Check.word(17, 1)};
-            int filler = m.open(0);
-            Check.due("open", x.open(0), filler);
-            for (int word : words) {
-                Check.due("code", x.code(filler, word), m.code(filler, word));
-            }
-            Check.due("seal", x.seal(filler), m.seal(filler));
-            Check.due("fill", x.transact(filler, filler, 0, 10000), m.transact(filler, filler, 0, 10000));
-            bottom = top;
-        }
-        Check.due("filled", x.keys(), 498);
-    }
-
-    private static void oneCall(int run, CallLedger x, Model m) {
-        int kind = below(20);
-        if (kind < 2) {
-            writeCode(x, m);
-        } else if (kind < 5) {
-            int v = pick(0, 1, 2, 3, -1, below(1000));
-            Check.due("argument", x.argument(v), m.argument(v));
-        } else if (kind < 15) {
-            transaction(run, x, m);
-        } else if (kind < 16) {
-            int balance = pick(-1, 0, 5, below(100), 2147483647);
-            answer(run, "open", () -> x.open(balance), () -> m.open(balance));
-        } else if (kind < 17) {
-            int i = below(310) - 2;
-            answer(run, "log", () -> x.log(i), () -> m.log(i));
-        } else if (kind < 18) {
-            int account = below(26) - 1;
-            answer(run, "seal", () -> x.seal(account), () -> m.seal(account));
-        } else {
-            int account = below(26) - 1;
-            int key = below(9) - 2;
-            answer(run, "storage", () -> x.storage(account, key), () -> m.storage(account, key));
-            answer(run, "balance", () -> x.balance(account), () -> m.balance(account));
+    /** Makes one call of the object and of the model; both must answer, or throw, the same. */
+    private void same(String name, Call got, Call want) {
+        if (calls < MOST_CALLS) {
+            calls++;
+            due("run " + run + ", call " + calls + ", " + name, told(got), told(want));
         }
     }
 
-    private static void answer(int run, String name, Check.Call got, Check.Call want) {
-        Check.due("run " + run + ": " + name, told(got), told(want));
-    }
-
-    private static long told(Check.Call call) {
+    private static String told(Call call) {
         try {
-            return call.answer();
-        } catch (IndexOutOfBoundsException thrown) {
-            return 1L << 40;
-        } catch (IllegalStateException thrown) {
-            return 2L << 40;
-        } catch (IllegalArgumentException thrown) {
-            return 3L << 40;
+            return "" + call.answer();
+        } catch (RuntimeException thrown) {
+            return thrown.getClass().getSimpleName();
         }
     }
 
-    private static void transaction(int run, CallLedger x, Model m) {
-        int accounts = m.accounts.size();
-        int from = below(40) == 0 ? below(26) - 1 : below(accounts);
-        int to = below(40) == 0 ? below(26) - 1 : below(accounts);
-        int amount = pick(0, 0, 1, 2, below(30), below(40) - 2);
-        int gas = pick(below(60), below(500), below(10001), 10000, below(40) == 0 ? pick(-1, 10001) : 300);
-        answer(run, "transact", () -> {
+    private void open(int balance) {
+        same("open", () -> x.open(balance), () -> m.open(balance));
+    }
+
+    private void addWord(int account, int word) {
+        same("code", () -> x.code(account, word), () -> m.code(account, word));
+    }
+
+    private void seal(int account) {
+        same("seal", () -> x.seal(account), () -> m.seal(account));
+    }
+
+    private void transact(int from, int to, int amount, int gas) {
+        same("transact", () -> {
             int ending = x.transact(from, to, amount, gas);
             SEEN[ending]++;
             return ending;
         }, () -> m.transact(from, to, amount, gas));
-        Check.due("run " + run + ": used", x.used(), m.used);
-        Check.due("run " + run + ": result", x.result(), m.result);
-        Check.due("run " + run + ": keys", x.keys(), m.keys());
-        Check.due("run " + run + ": logged", x.logged(), m.log.size());
-        Check.due("run " + run + ": supply", x.supply(), m.supply());
     }
 
-    private static void writeCode(CallLedger x, Model m) {
-        int account = below(m.accounts.size());
-        int length = 1 + below(pick(6, 30, 60));
+    /** Fills the storage nearly up, so that the trap 6 comes now and then. */
+    private void crowd() {
+        int[] tops = {170, 340, 498};
+        int bottom = 0;
+        for (int top : tops) {
+            int filler = m.accounts.size();
+            open(0);
+            for (int word : code(push(top), copy(0), push(1), STORE, push(1), SUBTRACT, copy(0), push(bottom),
+                    IS_SAME, IS_ZERO, jumpIf(1))) {
+                addWord(filler, word);
+            }
+            seal(filler);
+            transact(filler, filler, 0, 10000);
+            bottom = top;
+        }
+    }
+
+    private void oneCall() {
+        int kind = below(40);
+        if (kind < 1) {
+            writeCode(below(m.accounts.size()));
+        } else if (kind < 7) {
+            int v = pick(0, 1, 2, 3, -1, below(1000));
+            same("argument", () -> x.argument(v), () -> m.argument(v));
+        } else if (kind < 28) {
+            transaction();
+        } else if (kind < 30) {
+            open(pick(-1, 0, 5, below(100), 2147483647));
+        } else if (kind < 34) {
+            int i = below(m.log.size() + 3) - 1;
+            same("log", () -> x.log(i), () -> m.log(i));
+        } else if (kind < 36) {
+            seal(below(26) - 1);
+        } else {
+            int account = below(26) - 1;
+            int key = below(9) - 2;
+            same("storage", () -> x.storage(account, key), () -> m.storage(account, key));
+            same("balance", () -> x.balance(account), () -> m.balance(account));
+        }
+    }
+
+    private void transaction() {
+        int accounts = m.accounts.size();
+        int from = below(20) == 0 ? below(26) - 1 : below(accounts);
+        int to = below(20) == 0 ? below(26) - 1 : below(accounts);
+        int amount = pick(0, 0, 1, 2, below(60), below(60) - 5);
+        int gas = pick(below(300), below(3000), below(10001), 10000, below(40) == 0 ? 10001 : 9000);
+        transact(from, to, amount, gas);
+        same("used", () -> x.used(), () -> m.used);
+        same("result", () -> x.result(), () -> m.result);
+        same("keys", () -> x.keys(), () -> m.keys());
+        same("logged", () -> x.logged(), () -> m.log.size());
+        same("supply", () -> x.supply(), () -> m.supply());
+    }
+
+    private void writeCode(int account) {
+        int length = 1 + below(pick(6, 20, 40));
         List<Integer> words = new ArrayList<>();
         while (words.size() < length) {
             addWords(words, length, m.accounts.size());
         }
         for (int word : words) {
-            answer(0, "code", () -> x.code(account, word), () -> m.code(account, word));
+            addWord(account, word);
         }
         if (below(5) != 0) {
-            answer(0, "seal", () -> x.seal(account), () -> m.seal(account));
+            seal(account);
         }
     }
 
-    private static void addWords(List<Integer> words, int length, int accounts) {
+    private void addWords(List<Integer> words, int length, int accounts) {
         int kind = below(24);
         if (kind < 5) {
-            words.add(Check.push(below(12) - 2));
+            words.add(push(below(12) - 2));
         } else if (kind < 8) {
-            words.add(Check.push(below(8)));
-            words.add(Check.push(pick(0, 1, 2, below(50))));
+            words.add(push(below(8)));
+            words.add(push(pick(0, 1, 2, below(50))));
             words.add(19);
         } else if (kind < 13) {
             int arguments = below(30) == 0 ? below(9) : below(3);
             for (int i = 0; i < arguments; i++) {
-                words.add(Check.push(below(5)));
+                words.add(push(below(5)));
             }
-            words.add(Check.push(pick(below(100), below(1000), 9999, below(20) == 0 ? -1 : 5000)));
-            words.add(Check.push(pick(0, 0, 1, 2, below(20) - 2)));
-            words.add(Check.push(below(accounts + 1)));
-            words.add(Check.word(27, arguments));
+            words.add(push(pick(below(100), below(1000), 9999, below(20) == 0 ? -1 : 5000)));
+            words.add(push(pick(0, 0, 1, 2, below(20) - 2)));
+            words.add(push(below(accounts + 1)));
+            words.add(word(27, arguments));
         } else if (kind < 14) {
-            words.add(Check.word(pick(16, 17), below(length + 1)));
+            words.add(word(pick(16, 17), below(length + 1)));
         } else if (kind < 16) {
             words.add(pick(21, 22, 23, 28));
             words.add(25);
         } else if (kind < 17) {
-            words.add(Check.word(3, below(4)));
+            words.add(copy(below(4)));
         } else if (kind < 18) {
-            words.add(Check.word(4, 1 + below(3)));
+            words.add(swap(1 + below(3)));
         } else if (kind < 19) {
-            words.add(Check.push(below(300) - 100));
+            words.add(push(below(300) - 100));
             words.add(below(4) == 0 ? pick(0, 26, 29, 29) : pick(21, 22, 28));
         } else if (kind < 20) {
             words.add(below(300) == 0 ? below(256) : pick(18, 20, 24));
         } else {
-            words.add(Check.push(below(20) - 5));
+            words.add(push(below(20) - 5));
             words.add(below(4) == 0 ? 2 : 28);
             words.add(pick(5, 6, 7, 8, 9, 10, 11, 12, 13, 14, 15));
         }
     }
 
-    private static void compare(int run, CallLedger x, Model m) {
-        for (int i = 0; i < m.log.size(); i++) {
-            Check.due("run " + run + ": log " + i, x.log(i), m.log.get(i));
-        }
+    /** What is left of the calls goes to the log, the balances and the storage, from anywhere on. */
+    private void compare() {
         for (int account = 0; account < m.accounts.size(); account++) {
-            Check.due("run " + run + ": balance", x.balance(account), m.balance(account));
-            for (int key = -5; key < 500; key++) {
-                Check.due("run " + run + ": storage", x.storage(account, key), m.storage(account, key));
-            }
+            int asked = account;
+            same("balance", () -> x.balance(asked), () -> m.balance(asked));
+        }
+        while (calls < MOST_CALLS) {
+            int account = below(m.accounts.size());
+            int key = below(4) == 0 ? below(510) - 5 : below(13) - 4;
+            same("storage", () -> x.storage(account, key), () -> m.storage(account, key));
+            int i = below(m.log.size() + 1);
+            same("log", () -> x.log(i), () -> m.log(i));
         }
     }
 
