@@ -50,6 +50,9 @@ public final class ModelTest extends Bench {
         for (int i = 0; i < first; i++) {
             open(below(60));
         }
+        for (int i = first; run % 7 == 0 && i < 21; i++) {
+            open(1);
+        }
         if (run % 5 == 0) {
             crowd();
         }
@@ -152,11 +155,22 @@ public final class ModelTest extends Bench {
         same("keys", () -> x.keys(), () -> m.keys());
         same("logged", () -> x.logged(), () -> m.log.size());
         same("supply", () -> x.supply(), () -> m.supply());
+        int last = m.log.size() - 1;
+        same("log", () -> x.log(last), () -> m.log(last));
     }
 
     private void writeCode(int account) {
         int length = 1 + below(pick(6, 20, 40));
+        if (run % 11 == 0 && account == 0) {
+            length = 155 + below(6);
+        }
         List<Integer> words = new ArrayList<>();
+        if (below(8) == 0) {
+            // a stack that is nearly full
+            for (int i = below(6); i < 32; i++) {
+                words.add(push(i));
+            }
+        }
         while (words.size() < length) {
             addWords(words, length, m.accounts.size());
         }
@@ -183,26 +197,45 @@ public final class ModelTest extends Bench {
             }
             words.add(push(pick(below(100), below(1000), 9999, below(20) == 0 ? -1 : 5000)));
             words.add(push(pick(0, 0, 1, 2, below(20) - 2)));
-            words.add(push(below(accounts + 1)));
+            words.add(below(4) == 0 ? 23 : push(below(accounts + 1)));
             words.add(word(27, arguments));
+            words.add(25);
+            tellTop(words);
         } else if (kind < 14) {
             words.add(word(pick(16, 17), below(length + 1)));
         } else if (kind < 16) {
             words.add(pick(21, 22, 23, 28));
             words.add(25);
         } else if (kind < 17) {
-            words.add(copy(below(4)));
+            words.add(copy(below(12) == 0 ? below(17) : below(4)));
         } else if (kind < 18) {
-            words.add(swap(1 + below(3)));
+            words.add(swap(below(12) == 0 ? below(17) : 1 + below(3)));
         } else if (kind < 19) {
             words.add(push(below(300) - 100));
             words.add(below(4) == 0 ? pick(0, 26, 29, 29) : pick(21, 22, 28));
         } else if (kind < 20) {
-            words.add(below(300) == 0 ? below(256) : pick(18, 20, 24));
+            words.add(push(below(9) - 2));
+            words.add(below(60) == 0 ? below(256) : pick(18, 20, 20, 24));
+            tellTop(words);
         } else {
-            words.add(push(below(20) - 5));
-            words.add(below(4) == 0 ? 2 : 28);
+            words.add(pick(push(below(20) - 5), push(below(1 << 24) - (1 << 23)), 28, copy(below(3))));
+            words.add(pick(push(below(20) - 5), push(below(9) - 4), 22, 28, 2));
             words.add(pick(5, 6, 7, 8, 9, 10, 11, 12, 13, 14, 15));
+            tellTop(words);
+        }
+    }
+
+    /** What was computed comes to the log, the storage or the result now and then, so that it is seen. */
+    private void tellTop(List<Integer> words) {
+        int kind = below(8);
+        if (kind < 4) {
+            words.add(25);
+        } else if (kind < 6) {
+            words.add(push(below(8)));
+            words.add(swap(1));
+            words.add(19);
+        } else if (kind < 7) {
+            words.add(below(4) == 0 ? pick(26, 29) : copy(0));
         }
     }
 
